@@ -265,16 +265,6 @@ public final class RuleBooks {
         return runner.errCode;
     }
 
-    /** As run() answers; 0, and no run at all, where there is no book or no subject. */
-    private int runIfThere(int book, int subject) {
-        Book gone = bookAt(book);
-        Subject whose = subjectAt(subject);
-        if (gone == null || whose == null) {
-            return 0;
-        }
-        return runner.answerOf(gone, whose);
-    }
-
     // ---- actions
 
     public int action(int before, int instead, int check, int carry, int after, int report) {
@@ -295,30 +285,7 @@ public final class RuleBooks {
         if (action < 0 || action >= actionCount || whose == null) {
             return BAD;
         }
-        return goThroughStages(actions[action], whose);
-    }
-
-    private int goThroughStages(int[] stages, Subject subject) {
-        boolean hasRun = false;
-        for (int stage = 0; stage < STAGES; stage++) {
-            Book book = bookAt(stages[stage]);
-            if (book == null) {
-                continue;
-            }
-            // The trace is that of the whole call, but a call without a run leaves the older one.
-            if (!hasRun) {
-                runner.startCall();
-                hasRun = true;
-            }
-            int outcome = runner.outcomeOf(book, subject, 1);
-            if (runner.hasErred()) {
-                return runner.errAnswer();
-            }
-            if (outcome > 0 && stage != CARRY_OUT && stage != REPORT) {
-                return STAGE_ANSWER * (stage + 1) + outcome;
-            }
-        }
-        return 0;
+        return runner.answerOfStages(actions[action], whose);
     }
 
     // ---- activities
@@ -343,7 +310,7 @@ public final class RuleBooks {
         if (openCount >= MOST_OPEN) {
             return FULL;
         }
-        int answer = runIfThere(activities[activity][PART_BEFORE], subject);
+        int answer = runner.answerOf(bookAt(activities[activity][PART_BEFORE]), subjectAt(subject));
         if (answer > ERR_ANSWER) {
             openActivities[openCount] = activity;
             openSubjects[openCount] = subject;
@@ -353,12 +320,18 @@ public final class RuleBooks {
     }
 
     public int middle() {
-        return runPartOfLatest(PART_MIDDLE);
+        if (openCount <= 0) {
+            return NO;
+        }
+        return runner.answerOf(latestPart(PART_MIDDLE), latestSubject());
     }
 
     public int finish() {
-        int answer = runPartOfLatest(PART_AFTER);
-        closeLatest();
+        if (openCount <= 0) {
+            return NO;
+        }
+        int answer = runner.answerOf(latestPart(PART_AFTER), latestSubject());
+        openCount--;
         return answer;
     }
 
@@ -366,22 +339,16 @@ public final class RuleBooks {
         if (openCount <= 0) {
             return NO;
         }
-        closeLatest();
+        openCount--;
         return openActivities[openCount];
     }
 
-    private int runPartOfLatest(int part) {
-        if (openCount <= 0) {
-            return NO;
-        }
-        int latest = openCount - 1;
-        return runIfThere(activities[openActivities[latest]][part], openSubjects[latest]);
+    private Book latestPart(int part) {
+        return bookAt(activities[openActivities[openCount - 1]][part]);
     }
 
-    private void closeLatest() {
-        if (openCount > 0) {
-            openCount--;
-        }
+    private Subject latestSubject() {
+        return subjectAt(openSubjects[openCount - 1]);
     }
 
     // ---- scenes
@@ -414,7 +381,7 @@ public final class RuleBooks {
 
     public int turn() {
         scenes.takeTurn();
-        int answer = runIfThere(turnBook, 0);
+        int answer = runner.answerOf(bookAt(turnBook), subjectAt(0));
         return answer <= ERR_ANSWER ? answer : scenes.eventCount;
     }
 
@@ -781,22 +748,11 @@ public final class RuleBooks {
             }
         }
 
-        void startCall() {
-            trace.length = 0;
-            errCode = 0;
-            errRule = 0;
-        }
-
-        boolean hasErred() {
-            return errCode != 0;
-        }
-
-        int errAnswer() {
-            return ERR_ANSWER - errRule;
-        }
-
-        /** A call with this one run alone. */
+        /** A call with one run alone; 0, and no run, where there is no book or no subject for it. */
         int answerOf(Book book, Subject subject) {
+            if (book == null || subject == null) {
+                return 0;
+            }
             startCall();
             int outcome = outcomeOf(book, subject, 1);
             if (hasErred()) {
@@ -805,8 +761,45 @@ public final class RuleBooks {
             return outcome > 0 ? outcome : book.otherwise;
         }
 
+        /** A call with a run for each stage that has a book. */
+        int answerOfStages(int[] stages, Subject subject) {
+            boolean hasRun = false;
+            for (int stage = 0; stage < stages.length; stage++) {
+                int book = stages[stage];
+                if (book < 0 || book >= books.size()) {
+                    continue;
+                }
+                // The trace is that of the whole call, but a call without a run leaves the older one.
+                if (!hasRun) {
+                    startCall();
+                    hasRun = true;
+                }
+                int outcome = outcomeOf(books.get(book), subject, 1);
+                if (hasErred()) {
+                    return errAnswer();
+                }
+                if (outcome > 0 && stage != CARRY_OUT && stage != REPORT) {
+                    return STAGE_ANSWER * (stage + 1) + outcome;
+                }
+            }
+            return 0;
+        }
+
+        private void startCall() {
+            trace.length = 0;
+            errCode = 0;
+        }
+
+        private boolean hasErred() {
+            return errCode != 0;
+        }
+
+        private int errAnswer() {
+            return ERR_ANSWER - errRule;
+        }
+
         /** The outcome, or ENDS without one. The depth is how many runs there are with this one. */
-        int outcomeOf(Book book, Subject subject, int depth) {
+        private int outcomeOf(Book book, Subject subject, int depth) {
             OwnState state = states[depth - 1];
             state.startWith(book.firstNumbers);
             for (int i = 0; i < book.row.size(); i++) {

@@ -15,6 +15,7 @@ public final class PhrasesTest {
         RuleBooks x = new RuleBooks();
         x.kind(0);
         CHECK.due("phrase(0, 0, 0)", x.phrase(0, 0, 0), 0);
+        CHECK.due("phrase(0, 0, 0) again", x.phrase(0, 0, 0), -2);
         CHECK.due("phrase(9, 1, 0)", x.phrase(9, 1, 0), 1);
         CHECK.due("the same again", x.phrase(9, 1, 0), -2);
         CHECK.due("the kinds the other way", x.phrase(9, 0, 1), 2);

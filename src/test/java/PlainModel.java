@@ -144,6 +144,11 @@ final class PlainModel {
         return append(rules, notes, 60);
     }
 
+    /** The book of a rule, for a test that wants to know; BAD: none such. */
+    int bookOf(int rule) {
+        return in(rule, rules) ? rules.get(rule).book : BAD;
+    }
+
     int condition(int rule, int code, int x, int y) {
         if (!in(rule, rules) || !in(code, 0, 6) && !in(code, 10, 16)) {
             return BAD;

@@ -8,6 +8,7 @@ public final class RowTest {
         byDeep();
         eachOrder();
         ordersInTime();
+        newOrderTakesThePlace();
         goneRules();
         CHECK.end();
     }
@@ -112,6 +113,17 @@ public final class RowTest {
         CHECK.dueText("unlisted", Check.row(x, 0), "4 0 3 2");
         x.order(1, 4, 4);
         CHECK.dueText("instead of the first", Check.row(x, 0), "1 0 3 2");
+    }
+
+    private static void newOrderTakesThePlace() {
+        RuleBooks x = withRules(4);
+        x.order(3, 0, 0);
+        x.order(1, 2, 3);
+        CHECK.dueText("1 before 3, which is first", Check.row(x, 0), "1 3 0 2");
+        x.order(3, 5, 0);
+        CHECK.dueText("1 before 3, where that stood then, and just later 3 goes", Check.row(x, 0), "0 2 1");
+        x.order(3, 1, 0);
+        CHECK.dueText("the same, but 3 is last", Check.row(x, 0), "0 2 1 3");
     }
 
     private static void goneRules() {
