@@ -1,17 +1,12 @@
-import java.io.IOException;
 import java.lang.reflect.Constructor;
 import java.lang.reflect.Field;
 import java.lang.reflect.Method;
 import java.lang.reflect.Modifier;
-import java.nio.file.Files;
-import java.nio.file.Path;
 import java.util.Arrays;
 import java.util.Map;
 import java.util.TreeMap;
-import java.util.regex.Matcher;
-import java.util.regex.Pattern;
 
-/** The document's face, no more and no less; and words that LANGUAGE.md leaves out. */
+/** The document's face, no more and no less. */
 public final class FaceTest {
     private static final String[] METHODS = {
         "kind 1", "under 2", "subject 1", "set 3", "value 2", "book 1", "variable 3", "rule 3",
@@ -19,11 +14,10 @@ public final class FaceTest {
         "activity 3", "begin 2", "middle 0", "finish 0", "abandon 0", "scene 1", "anchor 4",
         "everyTurn 1", "turn 0", "event 1", "happens 2", "phrase 3", "choose 3", "count 1"};
 
-    public static void main(String[] args) throws IOException {
+    public static void main(String[] args) {
         Check check = new Check();
         constants(check);
         members(check);
-        words(check);
         check.end();
     }
 
@@ -66,17 +60,5 @@ public final class FaceTest {
         check.due("its parameters", constructors[0].getParameterCount(), 0);
         check.due("final class", Modifier.isFinal(RuleBooks.class.getModifiers()) ? 1 : 0, 1);
         check.due("public class", Modifier.isPublic(RuleBooks.class.getModifiers()) ? 1 : 0, 1);
-    }
-
-    private static void words(Check check) throws IOException {
-        String text = Files.readString(Path.of("src/main/java/RuleBooks.java"));
-        String code = text.replaceAll("(?s)/\\*.*?\\*/", " ").replaceAll("//[^\n]*", " ");
-        Pattern left = Pattern.compile("\\b(throw|throws|try|catch|finally|synchronized|assert|package|record)\\b|->|::|\\w+Exact\\b");
-        Matcher matcher = left.matcher(code);
-        check.dueText("a word that is left out", matcher.find() ? matcher.group() : "none", "none");
-        Matcher imports = Pattern.compile("import ([^;]*);").matcher(code);
-        while (imports.find()) {
-            check.dueText("an import", imports.group(1), "java.util.ArrayList");
-        }
     }
 }
