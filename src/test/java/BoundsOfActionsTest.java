@@ -3,13 +3,13 @@ public final class BoundsOfActionsTest {
     private static final Check CHECK = new Check();
 
     public static void main(String[] args) {
-        booksOfAnAction();
+        booksOf("action", 6, 4);
         mostActions();
         whoActs();
         outcomesOfStages();
         stagesWithoutABook();
         errsOfStages();
-        booksOfAnActivity();
+        booksOf("activity", 3, 5);
         mostActivities();
         whatBegins();
         mostOpen();
@@ -23,22 +23,23 @@ public final class BoundsOfActionsTest {
         CHECK.end();
     }
 
-    /** Promise 17: "of six books (NONE: none)", "BAD: no such books". */
-    private static void booksOfAnAction() {
-        for (int stage = 0; stage < 6; stage++) {
-            Play play = new Play(CHECK, "book of stage " + stage);
-            String line = "action" + " NONE".repeat(stage) + " {book}" + " NONE".repeat(5 - stage) + " = ";
-            play.say(Play.fill(line, "book", 0) + "BAD");
+    /** Promises 17 and 19: "of six books", "of three books", "(NONE: none)", "BAD: no such books". */
+    private static void booksOf(String call, int places, int counted) {
+        for (int place = 0; place < places; place++) {
+            Play play = new Play(CHECK, call + ", book " + place);
+            String before = call + " NONE".repeat(place) + " ";
+            String behind = " NONE".repeat(places - 1 - place) + " = ";
+            play.say(before + "0" + behind + "BAD");
             play.say("book 0 = 0\nbook 0 = 1");
             for (String wrong : new String[] {"-1", "-2", "-3", "-5", "2", "MIN", "MAX"}) {
-                play.say(Play.fill(line, "book", wrong) + "BAD");
+                play.say(before + wrong + behind + "BAD");
             }
-            play.say("count 4 = 0");
-            play.say(Play.fill(line, "book", "0") + "0");
-            play.say(Play.fill(line, "book", "1") + "1");
-            play.say(Play.fill(line, "book", "NONE") + "2");
-            play.say(Play.fill(line, "book", "2") + "BAD");
-            play.say("count 4 = 3");
+            play.say("count " + counted + " = 0");
+            play.say(before + "0" + behind + "0");
+            play.say(before + "1" + behind + "1");
+            play.say(before + "NONE" + behind + "2");
+            play.say(before + "2" + behind + "BAD");
+            play.say("count " + counted + " = 3");
             play.end();
         }
     }
@@ -156,26 +157,6 @@ public final class BoundsOfActionsTest {
         }
     }
 
-    /** Promise 19: "of three books (NONE: none)", "BAD: no such books". */
-    private static void booksOfAnActivity() {
-        for (int part = 0; part < 3; part++) {
-            Play play = new Play(CHECK, "book of part " + part);
-            String line = "activity" + " NONE".repeat(part) + " {book}" + " NONE".repeat(2 - part) + " = ";
-            play.say(Play.fill(line, "book", 0) + "BAD");
-            play.say("book 0 = 0\nbook 0 = 1");
-            for (String wrong : new String[] {"-1", "-2", "-3", "-5", "2", "MIN", "MAX"}) {
-                play.say(Play.fill(line, "book", wrong) + "BAD");
-            }
-            play.say("count 5 = 0");
-            play.say(Play.fill(line, "book", "0") + "0");
-            play.say(Play.fill(line, "book", "1") + "1");
-            play.say(Play.fill(line, "book", "NONE") + "2");
-            play.say(Play.fill(line, "book", "2") + "BAD");
-            play.say("count 5 = 3");
-            play.end();
-        }
-    }
-
     /** "ACTIVITIES (6)"; promise 19: "FULL". */
     private static void mostActivities() {
         Play play = new Play(CHECK, "6 activities");
@@ -237,6 +218,7 @@ public final class BoundsOfActionsTest {
     private static void mostOpen() {
         Play.of(CHECK, "four are open", """
                 subject 0 = 0
+                subject 0 = 1
                 book 50 = 0
                 rule 0 0 0 = 0
                 activity 0 0 0 = 0
@@ -250,10 +232,17 @@ public final class BoundsOfActionsTest {
                 does 0 3 0 9 = 0
                 begin 0 0 = FULL
                 begin 1 0 = FULL
+                begin 0 1 = FULL
+                begin 1 1 = FULL
                 begin 2 0 = BAD              # BAD comes before FULL
-                begin 0 1 = BAD
+                begin 0 2 = BAD
                 value 0 0 = 0                # there was no run
+                value 1 0 = 0
                 count 6 = 4
+                middle = 50                  # of the 4th one, for its subject
+                value 0 0 = 9
+                value 1 0 = 0
+                set 0 0 0 = 9
                 abandon = 0
                 count 6 = 3
                 begin 1 0 = 0                # there is room again

@@ -128,6 +128,16 @@ public final class BoundsOfRowsTest {
                 whole row 0 = 4 3 2 1 5 0
                 """);
         play.end();
+        of("by how many conditions, the older ones having more", 3, """
+                condition 0 1 0 0 = 1
+                condition 0 1 0 0 = 2
+                condition 1 0 0 0 = 1
+                whole row 0 = 0 1 2
+                condition 2 0 0 0 = 1
+                condition 2 0 0 0 = 2
+                condition 2 0 0 0 = 3
+                whole row 0 = 2 0 1
+                """);
     }
 
     /** "its DEEP is how many kinds it is under, less 1"; "the sum of the DEEPs .. 0 (not 10)". */
@@ -350,6 +360,17 @@ public final class BoundsOfRowsTest {
                 whole row 0 = 0 1 2 3
                 order 3 5 0 = 0
                 whole row 0 = 0 1 2
+                """);
+        of("the order that it had is gone", 4, """
+                order 1 0 0 = 0
+                order 3 2 1 = 0
+                whole row 0 = 3 1 0 2
+                order 1 1 0 = 0          # 1 is in its old place when 3 comes to stand before it
+                whole row 0 = 0 3 2 1
+                order 1 5 0 = 0
+                whole row 0 = 0 3 2
+                order 1 4 0 = 0          # 0 goes
+                whole row 0 = 1 3 2
                 """);
     }
 

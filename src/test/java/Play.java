@@ -18,6 +18,8 @@ import java.util.Set;
  */
 final class Play {
     private static final int PROMISED_CALLS = 512;
+    /** How much is shown before and behind the place where the inside is not as it was. */
+    private static final int SHOWN = 60;
     private static final Set<String> ASKING = Set.of(
             "under", "value", "row", "trace", "erred", "event", "happens", "choose", "count", "whole");
     private static final Map<String, Integer> WORDS = Map.of(
@@ -112,8 +114,18 @@ final class Play {
             check.due(told, call(words), number(due));
         }
         if (changesNothing) {
-            check.dueText(told + ": the inside", Inside.of(books), before);
+            sameInside(told, before, Inside.of(books));
         }
+    }
+
+    private void sameInside(String told, String before, String after) {
+        int at = 0;
+        while (at < Math.min(before.length(), after.length()) && before.charAt(at) == after.charAt(at)) {
+            at++;
+        }
+        int from = Math.max(0, at - SHOWN);
+        check.dueText(told + ": the inside", after.substring(from, Math.min(after.length(), at + SHOWN)),
+                before.substring(from, Math.min(before.length(), at + SHOWN)));
     }
 
     private static int number(String word) {
