@@ -14,7 +14,7 @@ import java.util.Set;
  *
  * A line that is due BAD, NO or FULL in letters is a refused one: nothing may be changed by it, inside
  * the object too. In the end the other lines are said again to new objects, without the refused ones
- * and with each of them said three times: all answers must be the same.
+ * and with each of them said up to three times: all answers must be the same.
  */
 final class Play {
     private static final int PROMISED_CALLS = 512;
