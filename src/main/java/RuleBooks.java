@@ -275,7 +275,7 @@ public final class RuleBooks {
         if (actionCount >= MOST_ACTIONS) {
             return FULL;
         }
-        actions[actionCount] = stages;
+        System.arraycopy(stages, 0, actions[actionCount], 0, STAGES);
         actionCount++;
         return actionCount - 1;
     }
@@ -298,7 +298,7 @@ public final class RuleBooks {
         if (activityCount >= MOST_ACTIVITIES) {
             return FULL;
         }
-        activities[activityCount] = parts;
+        System.arraycopy(parts, 0, activities[activityCount], 0, PARTS);
         activityCount++;
         return activityCount - 1;
     }
